@@ -528,14 +528,9 @@ public final class GradeTexts {
         private int grades = 0;
         private int formulas = 0;
 
-        Book() {
-            Arrays.fill(highs, NONE);
-            Arrays.fill(limits, NONE);
-        }
-
+        /** Empties the book; the rows of parents and lows are not looked at before they are told anew. */
         void forget() {
             Arrays.fill(toldParents, 0);
-            Arrays.fill(parents, 0);
             Arrays.fill(highs, NONE);
             Arrays.fill(limits, NONE);
             Arrays.fill(routes, 0);

@@ -5,6 +5,8 @@ public final class TapeTest {
         signs();
         signRefusals();
         readTakesThePlace();
+        nothingOldComesBack();
+        oldBytesDoNotCount();
         wrongTextLeavesAll();
         clears();
         Check.end();
@@ -73,6 +75,41 @@ public final class TapeTest {
         Check.same("again a grade", Check.read(x, "g4;"), 1);
         Check.same("an empty text", x.read(), 0);
         Check.index("no grades behind an empty text", () -> x.span(4, 0, 0));
+    }
+
+    private static void nothingOldComesBack() {
+        GradeTexts x = new GradeTexts();
+        for (int round = 0; round < 3; round++) {
+            Check.read(x, "e0=A;g1<2A1-2r1q0<3;g2B3-4r2q1<4;");
+            Check.same("a bare grade", Check.read(x, round == 0 ? "g1;" : round == 1 ? "g1;g2;" : "g2;g1<2;"), round == 0 ? 1 : 2);
+            Check.read(x, "g1;g2;e1=H;");
+            Check.same("old spans", x.span(1, 0, 1) + " " + x.span(1, 1, 1) + " " + x.span(1, 0, 0), "100000 100000 0");
+            Check.same("old routes", x.route(1, 0) + " " + x.route(2, 0), "-1 -1");
+            Check.same("old limits", x.limit(1, 0) + " " + x.limit(1, 1), "-1 -1");
+            Check.turn("old formulas", () -> x.value(0, 0));
+            x.write(1);
+            Check.same("old row", Check.print(x), "g1;");
+            Check.read(x, "e0=A;g1<1A1-2r1q0<3;");
+            x.clear();
+            Check.same("an old ring", x.ring(0), -1);
+            Check.read(x, "");
+            Check.read(x, "g1;");
+            Check.same("cleared routes", x.route(1, 0), -1);
+            Check.same("cleared limits", x.limit(1, 0), -1);
+            Check.same("cleared spans", x.span(1, 0, 1), 100000);
+        }
+    }
+
+    private static void oldBytesDoNotCount() {
+        GradeTexts x = Check.of("g12;g13;");
+        Check.same("a digit behind the tape's end", Check.read(x, "g1"), -3);
+        Check.read(x, "g1A9;");
+        Check.same("a semicolon behind the tape's end", Check.read(x, "g1A0"), -5);
+        Check.read(x, "g1;g1;");
+        Check.same("a row behind the tape's end", Check.read(x, "g1;"), 1);
+        Check.same("a full tape that ends in a number", Check.read(x, " ".repeat(398) + "g1"), -401);
+        Check.same("a full tape that ends in blanks", Check.read(x, "g1" + " ".repeat(398)), -401);
+        Check.same("a full tape that ends in a row", Check.read(x, " ".repeat(397) + "g1;"), 1);
     }
 
     private static void wrongTextLeavesAll() {

@@ -39,6 +39,7 @@ public final class WrongTextTest {
 
     private static void formulas() {
         wrongAt("e", 1);
+        wrongAt("e;", 1);
         wrongAt("e4", 1);
         wrongAt("e9=A;", 1);
         wrongAt("e=A;", 1);
@@ -144,6 +145,7 @@ public final class WrongTextTest {
 
     private static void limits() {
         wrongAt("g1q", 3);
+        wrongAt("g1q;", 3);
         wrongAt("g1q4", 3);
         wrongAt("g1q<", 3);
         wrongAt("g1q0", 4);
