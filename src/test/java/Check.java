@@ -8,8 +8,14 @@ final class Check {
 
     private static int wrong = 0;
     private static int made = 0;
+    private static String sentence = "";
 
     private Check() {
+    }
+
+    /** The document's sentence that the answers from here on are about. */
+    static void sentence(String words) {
+        sentence = "\"" + words + "\": ";
     }
 
     /** Puts a text on the tape, eight bytes a call. */
@@ -30,6 +36,16 @@ final class Check {
         return x.read();
     }
 
+    /** A new object is wrong at the place when it reads the text. */
+    static void wrongAt(String text, int place) {
+        same("read of \"" + text + "\"", read(new GradeTexts(), text), -1 - place);
+    }
+
+    /** A new object reads so many grades from the text. */
+    static void right(String text, int grades) {
+        same("read of \"" + text + "\"", read(new GradeTexts(), text), grades);
+    }
+
     /** A new object that has read a right text. */
     static GradeTexts of(String text) {
         GradeTexts x = new GradeTexts();
@@ -43,8 +59,10 @@ final class Check {
     /** The latest print, as far as at tells it. */
     static String print(GradeTexts x) {
         StringBuilder text = new StringBuilder();
-        for (int i = 0; x.at(i) >= 0; i++) {
-            text.append((char) x.at(i));
+        int sign = x.at(0);
+        for (int i = 1; sign >= 0; i++) {
+            text.append((char) sign);
+            sign = x.at(i);
         }
         return text.toString();
     }
@@ -53,8 +71,31 @@ final class Check {
         made++;
         if (!String.valueOf(got).equals(String.valueOf(want))) {
             wrong++;
-            System.out.println(what + " answered " + got + ", due is " + want);
+            System.out.println(sentence + what + " answered " + got + ", due is " + want);
         }
+    }
+
+    static String span(GradeTexts x, int grade, int element) {
+        return x.span(grade, element, 0) + "-" + x.span(grade, element, 1);
+    }
+
+    /** All routes of a grade, one behind the other. */
+    static String routes(GradeTexts x, int grade) {
+        StringBuilder text = new StringBuilder();
+        int route = x.route(grade, 0);
+        for (int k = 1; route >= 0; k++) {
+            text.append(route);
+            route = x.route(grade, k);
+        }
+        return text.toString();
+    }
+
+    static String equivalent(GradeTexts x, int grade, int kind, int end) {
+        return x.equivalent(grade, kind, end, 0) + "/" + x.equivalent(grade, kind, end, 1);
+    }
+
+    static String value(GradeTexts x, int kind) {
+        return x.value(kind, 0) + "/" + x.value(kind, 1);
     }
 
     static void index(String what, Call call) {

@@ -16,27 +16,19 @@ public final class EquivalentTest {
         Check.end();
     }
 
-    private static String equivalent(GradeTexts x, int grade, int kind, int end) {
-        return x.equivalent(grade, kind, end, 0) + "/" + x.equivalent(grade, kind, end, 1);
-    }
-
-    private static String value(GradeTexts x, int kind) {
-        return x.value(kind, 0) + "/" + x.value(kind, 1);
-    }
-
     private static void equivalents() {
         GradeTexts x = Check.of(TEXT);
-        Check.same("lows", equivalent(x, 1, 0, 0), "100/1");
-        Check.same("highs", equivalent(x, 1, 0, 1), "21350/3");
-        Check.same("lows of an heir", equivalent(x, 3, 0, 0), "362/3");
-        Check.same("highs of an heir", equivalent(x, 3, 0, 1), "7799/15");
-        Check.same("nothing", equivalent(x, 7, 2, 0), "0/1");
-        Check.same("one term", equivalent(x, 7, 2, 1), "5000/1");
+        Check.same("lows", Check.equivalent(x, 1, 0, 0), "100/1");
+        Check.same("highs", Check.equivalent(x, 1, 0, 1), "21350/3");
+        Check.same("lows of an heir", Check.equivalent(x, 3, 0, 0), "362/3");
+        Check.same("highs of an heir", Check.equivalent(x, 3, 0, 1), "7799/15");
+        Check.same("nothing", Check.equivalent(x, 7, 2, 0), "0/1");
+        Check.same("one term", Check.equivalent(x, 7, 2, 1), "5000/1");
         GradeTexts y = Check.of("e3=A/2+B/2;e1=A/1+B/4;g9A1-3B1-6;");
-        Check.same("halves that make one", equivalent(y, 9, 3, 0), "1/1");
-        Check.same("halves that stay", equivalent(y, 9, 3, 1), "9/2");
-        Check.same("quarters", equivalent(y, 9, 1, 0), "5/4");
-        Check.same("quarters that make halves", equivalent(y, 9, 1, 1), "9/2");
+        Check.same("halves that make one", Check.equivalent(y, 9, 3, 0), "1/1");
+        Check.same("halves that stay", Check.equivalent(y, 9, 3, 1), "9/2");
+        Check.same("quarters", Check.equivalent(y, 9, 1, 0), "5/4");
+        Check.same("quarters that make halves", Check.equivalent(y, 9, 1, 1), "9/2");
     }
 
     private static void equivalentRefusals() {
@@ -67,36 +59,36 @@ public final class EquivalentTest {
 
     private static void greatEquivalents() {
         GradeTexts x = Check.of("e0=A/7+B/11+C/13+D/17+E/19+F/20+G/9+H/16;e1=A+B+C+D+E+F+G+H;g1;g3B0-99999;");
-        Check.same("many divisors", equivalent(x, 1, 0, 1), "187908853750/2909907");
-        Check.same("many divisors, changed", equivalent(x, 3, 0, 1), "187908589213/2909907");
-        Check.same("the most", equivalent(x, 1, 1, 1), "800000/1");
+        Check.same("many divisors", Check.equivalent(x, 1, 0, 1), "187908853750/2909907");
+        Check.same("many divisors, changed", Check.equivalent(x, 3, 0, 1), "187908589213/2909907");
+        Check.same("the most", Check.equivalent(x, 1, 1, 1), "800000/1");
         GradeTexts y = Check.of("e0=A/19+B/17+C/13+D/11+E/7+F/9+G/16+H/5;g1A1-1B1-1C1-1D1-1E1-1F1-1G1-1H1-1;");
-        Check.same("the greatest lower number", equivalent(y, 1, 0, 0), "185245967/232792560");
+        Check.same("the greatest lower number", Check.equivalent(y, 1, 0, 0), "185245967/232792560");
         for (int divisor = 1; divisor <= 20; divisor++) {
             GradeTexts z = Check.of("e0=A/" + divisor + ";g1A0-1;");
-            Check.same("one over " + divisor, equivalent(z, 1, 0, 1), "1/" + divisor);
+            Check.same("one over " + divisor, Check.equivalent(z, 1, 0, 1), "1/" + divisor);
         }
     }
 
     private static void values() {
         GradeTexts x = Check.of(TEXT);
-        Check.same("all 0 at first", value(x, 0) + " " + value(x, 2), "0/1 0/1");
+        Check.same("all 0 at first", Check.value(x, 0) + " " + Check.value(x, 2), "0/1 0/1");
         x.share(0, 150);
         x.share(1, 1499);
         x.share(2, 5);
-        Check.same("a sum", value(x, 0), "2401/6");
+        Check.same("a sum", Check.value(x, 0), "2401/6");
         x.share(7, 61);
-        Check.same("another kind", value(x, 2), "61/20");
+        Check.same("another kind", Check.value(x, 2), "61/20");
         x.share(7, 100000);
-        Check.same("the most", value(x, 2), "5000/1");
+        Check.same("the most", Check.value(x, 2), "5000/1");
         x.share(7, 0);
-        Check.same("the least", value(x, 2), "0/1");
+        Check.same("the least", Check.value(x, 2), "0/1");
         x.share(3, 77);
-        Check.same("an element without a term", value(x, 0), "2401/6");
+        Check.same("an element without a term", Check.value(x, 0), "2401/6");
         Check.read(x, "e3=A;");
-        Check.same("shares stay with another text", value(x, 3), "150/1");
+        Check.same("shares stay with another text", Check.value(x, 3), "150/1");
         Check.read(x, "x");
-        Check.same("shares stay with a wrong text", value(x, 3), "150/1");
+        Check.same("shares stay with a wrong text", Check.value(x, 3), "150/1");
     }
 
     private static void shareRefusals() {
@@ -109,7 +101,7 @@ public final class EquivalentTest {
             Check.range("a share " + v, () -> share(x, 0, v));
             Check.range("a last share " + v, () -> share(x, 7, v));
         }
-        Check.same("nothing was taken", value(x, 0), "0/1");
+        Check.same("nothing was taken", Check.value(x, 0), "0/1");
     }
 
     private static Object share(GradeTexts x, int element, int v) {

@@ -17,14 +17,16 @@ public final class MachineTest {
         Random random = new Random(20261115);
         for (int run = 0; run < 2000; run++) {
             GradeTexts x = new GradeTexts();
-            for (int call = 0; call < 512; call++) {
-                any(x, random);
+            // A text takes up to 11 calls, and the document promises 512.
+            for (int calls = 0; calls <= 512 - 11; calls++) {
+                calls += any(x, random);
             }
         }
         Check.end();
     }
 
-    private static void any(GradeTexts x, Random random) {
+    /** Makes a call, or several ones: how many it made more than one. */
+    private static int any(GradeTexts x, Random random) {
         int which = random.nextInt(18);
         int a = odd(random);
         int b = odd(random);
@@ -47,8 +49,9 @@ public final class MachineTest {
             case 13: see("write", "I", () -> x.write(a)); break;
             case 14: see("at", "I", () -> x.at(a)); break;
             case 15: see("clear", "", () -> { x.clear(); return random.nextInt(); }); break;
-            default: see("a text", "U", () -> mutatedText(x, random)); break;
+            default: see("a text", "U", () -> mutatedText(x, random)); return 10;
         }
+        return 0;
     }
 
     private static int mutatedText(GradeTexts x, Random random) {

@@ -239,13 +239,13 @@ public final class ModelTest {
         int[] shares = new int[8];
         for (int element = 0; element < 8; element++) {
             shares[element] = below(below(2) == 0 ? 12 : 100001);
-            x.share(element, shares[element]);
         }
-        values(text, x, model, shares);
+        values(text, withShares(text, shares), model, shares);
         for (Grade grade : model.grades.values()) {
-            oneGrade(text, x, model, grade, shares);
+            oneGrade(text, withShares(text, shares), model, grade, shares);
+            GradeTexts pairs = Check.of(text);
             for (Grade other : model.grades.values()) {
-                twoGrades(text, x, model, grade, other);
+                twoGrades(text, pairs, model, grade, other);
             }
         }
         List<Integer> rings = new ArrayList<>();
@@ -255,6 +255,15 @@ public final class ModelTest {
             }
         }
         Check.same("rings of " + text, list(k -> x.ring(k)), rings);
+    }
+
+    /** An object of its own for each of many questions, as one is good for 512 calls. */
+    private static GradeTexts withShares(String text, int[] shares) {
+        GradeTexts x = Check.of(text);
+        for (int element = 0; element < 8; element++) {
+            x.share(element, shares[element]);
+        }
+        return x;
     }
 
     private interface Row {

@@ -17,23 +17,19 @@ public final class SpanTest {
         Check.end();
     }
 
-    private static String span(GradeTexts x, int grade, int element) {
-        return x.span(grade, element, 0) + "-" + x.span(grade, element, 1);
-    }
-
     private static void spans() {
         GradeTexts x = Check.of(FAMILY);
-        Check.same("told", span(x, 1, 0), "100-200");
-        Check.same("changed", span(x, 2, 0), "120-180");
-        Check.same("of the parent", span(x, 2, 1), "0-1500");
-        Check.same("of the parent's parent", span(x, 30, 0), "120-180");
-        Check.same("changed without being narrower", span(x, 3, 1), "0-2000");
-        Check.same("of nobody", span(x, 30, 4), "0-100000");
-        Check.same("the last element", span(x, 30, 7), "5-6");
-        Check.same("not the heir's", span(x, 3, 7), "0-100000");
-        Check.same("without a parent", span(x, 7, 0), "0-100000");
+        Check.same("told", Check.span(x, 1, 0), "100-200");
+        Check.same("changed", Check.span(x, 2, 0), "120-180");
+        Check.same("of the parent", Check.span(x, 2, 1), "0-1500");
+        Check.same("of the parent's parent", Check.span(x, 30, 0), "120-180");
+        Check.same("changed without being narrower", Check.span(x, 3, 1), "0-2000");
+        Check.same("of nobody", Check.span(x, 30, 4), "0-100000");
+        Check.same("the last element", Check.span(x, 30, 7), "5-6");
+        Check.same("not the heir's", Check.span(x, 3, 7), "0-100000");
+        Check.same("without a parent", Check.span(x, 7, 0), "0-100000");
         GradeTexts y = Check.of("g1<2;g2A0-0;");
-        Check.same("the parent is told later, with 0-0", span(y, 1, 0), "0-0");
+        Check.same("the parent is told later, with 0-0", Check.span(y, 1, 0), "0-0");
     }
 
     private static void spanRefusals() {
@@ -113,18 +109,18 @@ public final class SpanTest {
 
     private static void heirsOfRings() {
         GradeTexts x = Check.of(RINGS);
-        Check.same("own", span(x, 1, 0), "1-9");
-        Check.same("none of the ring's next", span(x, 1, 1), "0-100000");
-        Check.same("none of the ring's last", span(x, 1, 2), "0-100000");
+        Check.same("own", Check.span(x, 1, 0), "1-9");
+        Check.same("none of the ring's next", Check.span(x, 1, 1), "0-100000");
+        Check.same("none of the ring's last", Check.span(x, 1, 2), "0-100000");
         Check.same("no routes of the ring's", x.route(3, 0), -1);
         Check.same("no limit of the ring's", x.limit(1, 1), -1);
-        Check.same("a ring of one", span(x, 5, 4), "1-9");
-        Check.same("an heir has those of its parent", span(x, 4, 1), "1-9");
-        Check.same("an heir has those of its parent alone", span(x, 4, 2), "0-100000");
+        Check.same("a ring of one", Check.span(x, 5, 4), "1-9");
+        Check.same("an heir has those of its parent", Check.span(x, 4, 1), "1-9");
+        Check.same("an heir has those of its parent alone", Check.span(x, 4, 2), "0-100000");
         Check.same("an heir's routes", x.route(8, 0), 2);
         Check.same("an heir's limit", x.limit(8, 1), 2);
         Check.same("an heir's limit ends at the ring", x.limit(8, 0), -1);
-        Check.same("a parent that is not told", span(x, 6, 5) + span(x, 6, 0), "1-90-100000");
+        Check.same("a parent that is not told", Check.span(x, 6, 5) + Check.span(x, 6, 0), "1-90-100000");
     }
 
     private static void longChain() {
@@ -133,8 +129,8 @@ public final class SpanTest {
             all.append("g").append(grade).append("<").append(grade - 1).append(";");
         }
         GradeTexts x = Check.of(all.toString());
-        Check.same("span through 29 parents", span(x, 30, 0), "7-8");
-        Check.same("no span through 29 parents", span(x, 30, 1), "0-100000");
+        Check.same("span through 29 parents", Check.span(x, 30, 0), "7-8");
+        Check.same("no span through 29 parents", Check.span(x, 30, 1), "0-100000");
         Check.same("route through 29 parents", x.route(30, 0), 5);
         Check.same("limit through 29 parents", x.limit(30, 2), 9);
         Check.same("no limit through 29 parents", x.limit(30, 1), -1);
